@@ -32,6 +32,7 @@ public final class PromiseTests {
         kindsThrow();
         kindsCome();
         blades();
+        facts();
         bounds();
         run();
         when();
@@ -162,7 +163,13 @@ public final class PromiseTests {
         due("5 a fault", Check.text(y, "falls x;"), -106);
         due("5 empty by a fault", y.count(6), 0);
         due("5 no text by a fault", y.count(4), 1);
-        due("5 then a text", Check.text(y, "falls 1;takes 1;lifts 1;"), 1);
+        Check.text(y, "falls 7;takes 7;lifts 8");
+        due("5 then a text", Check.text(y, "falls 1;takes 2;lifts 3;"), 1);
+        y.owner(0, 0);
+        y.force(1);
+        for (int part = 0; part < 3; part++) {
+            due("5 nothing of the faulty one stays", y.asks(part, 0, 0), part + 1);
+        }
     }
 
     private static void fault(String text, int place) {
@@ -218,6 +225,18 @@ public final class PromiseTests {
         fault("falls 1 > 1" + rest, 8);
         fault("falls " + (char) 255 + rest, 6);
         fault("fallshour" + rest, 0);
+        fault("falls" + rest, 5);
+        fault("falls 1 +" + rest, 9);
+        fault("falls 1 *" + rest, 9);
+        fault("falls 1 <" + rest, 9);
+        fault("falls 1 and" + rest, 11);
+        fault("falls 1 or" + rest, 10);
+        fault("falls not" + rest, 9);
+        fault("falls -" + rest, 7);
+        fault("falls (1 +) " + rest, 10);
+        fault("falls ((x))" + rest, 8);
+        fault("falls hourz" + rest, 6);
+        fault("falls wal l" + rest, 6);
         fault("takes 1;falls 1;lifts 1;", 0);
         fault("falls 1;lifts 1;takes 1;", 8);
         fault("falls 1;takes 1;lifts 1;;", 24);
@@ -596,6 +615,14 @@ public final class PromiseTests {
         z.pass(0, 0);
         z.live();
         due("hour lifts the wall", z.told(2, 0), 5);
+        // nothing is lost by lifting, all is carried behind the last part
+        ThrownBack over = withLaw(new ThrownBack(), "falls 3;takes 1;lifts 0;");
+        for (int g = 0; g < 12; g += 1) {
+            over.owner(0, 23);
+            over.put(g, 4, 1);
+        }
+        over.pass(0, 0);
+        due("hour lost behind part 5", over.run(1, 2), 18);
         // two passes of one hour, by numbers: the first has it all
         ThrownBack two = new ThrownBack();
         two.owner(0, 23);
@@ -620,6 +647,39 @@ public final class PromiseTests {
         large.put(0, 2, 99);
         due("hour bay takes no more than there is", large.run(1, 2), 12);
         due("hour no wall then", large.run(1, 50), 0);
+    }
+
+    /** What a text is told in an hour. */
+    private static void facts() {
+        ThrownBack falls = withLaw(new ThrownBack(), "falls 5+wall+more+heap+gate+10*passes+20*hour;takes 1;lifts 0;");
+        falls.owner(3, 9);
+        falls.owner(3, 9);
+        falls.put(0, 0, 7);
+        falls.put(0, 1, 8);
+        falls.pass(9, 0);
+        falls.set(0, 2);
+        falls.live();
+        due("hour falls, of no owner", falls.taken(12, 6), 5 + 10 + 40);
+        ThrownBack takes = withLaw(new ThrownBack(), "falls 0;takes wall+10*more+heap+gate+10*passes+5*hour;lifts 0;");
+        takes.owner(9, 5);
+        takes.owner(3, 2);
+        takes.put(1, 0, 7);
+        takes.put(1, 1, 4);
+        takes.pass(9, 0);
+        takes.set(0, 2);
+        due("hour takes, of the owner", takes.live(), 7 + 30 + 4 + 1 + 10 + 10);
+        ThrownBack lifts = withLaw(new ThrownBack(), "falls 50;takes 1;lifts wall-50+2*more+heap+gate+passes+hour;");
+        lifts.owner(9, 5);
+        lifts.owner(3, 5);
+        lifts.owner(0, 5);
+        lifts.owner(0, 5);
+        lifts.put(1, 0, 99);
+        lifts.put(1, 1, 4);
+        lifts.put(1, 4, 1);
+        lifts.pass(2, 1);
+        lifts.set(0, 2);
+        lifts.live();
+        due("hour lifts, of the owner", lifts.told(3, 0), 100 - 6 - 4 - 1 - 1 - 2);
     }
 
     private static void bounds() {
@@ -696,6 +756,8 @@ public final class PromiseTests {
         due("15 blocked together", y.run(4, 1), 36);
         due("15 highest", y.run(4, 3), 27);
         due("15 highest at last", y.run(3, 3), 11);
+        due("15 the first's wall", y.run(3, 50), 11);
+        due("15 the first's blocked", y.run(3, 30), 3);
         // minutes of all: 10 times 14 and 2 times 23
         due("15 minutes of all", y.run(4, 0), 186);
         y.put(11, 3, 4);
