@@ -18,6 +18,7 @@ public final class PromiseTests {
         feed();
         text();
         faults();
+        tapes();
         says();
         force();
         asks();
@@ -170,6 +171,25 @@ public final class PromiseTests {
         for (int part = 0; part < 3; part++) {
             due("5 nothing of the faulty one stays", y.asks(part, 0, 0), part + 1);
         }
+    }
+
+    /** A full tape, and what stood on it ahead of a shorter text. */
+    private static void tapes() {
+        String blanks = " ".repeat(140);
+        fault(blanks + "falls 1;takes 1;lift", 156);
+        fault(blanks + "falls 1;takes 123456", 154);
+        fault(blanks + "falls 1;takes 1;1234", 156);
+        fault(blanks + "falls 1;takes (hour+", 160);
+        fault(blanks + "falls 1;takes (hour)", 160);
+        fault("a".repeat(160), 0);
+        fault(" ".repeat(160), 160);
+        stands(" ".repeat(136) + "falls 1;takes 1;lifts 1;");
+        stands("falls 1" + "+1".repeat(60) + ";takes 1;lifts 1;");
+        ThrownBack x = new ThrownBack();
+        due("5 a longer one", Check.text(x, "falls 99999;"), -106);
+        due("5 digits of the longer one", Check.text(x, "falls 9"), -107);
+        due("5 another", Check.text(x, "falls wallxyz"), -106);
+        due("5 letters of the longer one", Check.text(x, "falls wall"), -110);
     }
 
     private static void fault(String text, int place) {
@@ -1240,10 +1260,12 @@ public final class PromiseTests {
         due("31 sheet -1", x.sheet(-1, -1, 0), BAD);
         // a row again is all 0: OWNER 0 at HOUR 0
         x.sheet(0, 2, 2);
+        x.cell(0, 0, 5);
         x.cell(0, 1, 5);
         x.sheet(0, 2, 2);
         x.ownersBy(0, 2, 0, 1);
         due("31 all 0", x.told(0, 3), 0);
+        due("31 the first, too", x.told(0, 6), 0);
     }
 
     /** A number as a SHEET has it: as the MORE and ONE'S HOUR of who comes by it, or -1. */
