@@ -350,6 +350,18 @@ public final class BestBounds {
             due("helps(11, 1, 1), the first", x.helps(11, 1, 1), 18);
             due("helps(0, 1, 0), not oneself", x.helps(0, 1, 0), 11);
         });
+        Sentence.of(21, "were that one of one's own KIND and MORE", () -> {
+            // YOUNG with MORE 3, who takes half of 20 less 3; the other's MORE of 9 would be below it
+            ThrownBack x = by("falls 0;takes wall;lifts 0;");
+            x.owner(33, 0);
+            x.owner(9, 0);
+            x.put(1, 0, 20);
+            due("helps(0, 1, 1)", x.helps(0, 1, 1), 7);
+            due("helps(1, 1, 1)", x.helps(1, 1, 1), 20);
+            x.put(0, 0, 20);
+            due("helps(0, 1, 1), both", x.helps(0, 1, 1), 14);
+            due("helps(1, 1, 1), both", x.helps(1, 1, 1), 40);
+        });
         Sentence.of(21, "of like ones the first (what 0), how many (1)", () -> {
             ThrownBack x = by("falls 0;takes wall;lifts 0;");
             for (int g = 0; g < 12; g++) {

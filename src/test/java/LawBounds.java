@@ -53,6 +53,9 @@ public final class LawBounds {
             due("owner(0, 0)", x.owner(0, 0), 0);
             due("falls", x.asks(0, 0, 0), 2);
             due("takes", x.asks(1, 0, 0), 3);
+            due("takes, a WALL of 95", x.asks(1, 0, 95), 98);
+            due("takes, a WALL of 96", x.asks(1, 0, 96), 99);
+            due("takes, a WALL of 97", x.asks(1, 0, 97), 99);
             due("lifts", x.asks(2, 0, 0), 1);
         });
         Sentence.of(1, "or missing (as all are at first)", () -> {
@@ -223,6 +226,14 @@ public final class LawBounds {
             due("count(4) by a FAULT", x.count(4), 2);
             due("text() of nothing", x.text(), -100);
             due("feed() then", x.feed(1, 1, 1, 1, 1, 1), 1);
+            ThrownBack y = new ThrownBack();
+            due("a FAULT at the end", Check.text(y, "falls 5+6;takes 7;lifts 8"), -125);
+            due("a TEXT then", Check.text(y, "falls 1;takes 2;lifts 3;"), 1);
+            y.owner(0, 0);
+            y.force(1);
+            for (int part = 0; part < 3; part++) {
+                due("nothing stays of what was at FAULT", y.asks(part, 0, 0), part + 1);
+            }
         });
         Sentence.of(5, "-100 less the place of its FAULT", () -> {
             fault("", 0);
@@ -318,6 +329,20 @@ public final class LawBounds {
             fault("falls not ", 10);
         });
         Sentence.of(5, "the first byte of the first TOKEN that can't stand there", () -> {
+            // what is no TOKEN counts as none that was there before
+            fault("falls not xor 1" + REST, 10);
+            fault("falls -xor 1" + REST, 7);
+            fault("falls -! 1" + REST, 7);
+            fault("falls -12345" + REST, 7);
+            fault("falls (xor 1)" + REST, 7);
+            fault("falls 1+xor 1" + REST, 8);
+            fault("falls ()" + REST, 7);
+            fault("falls (1+)" + REST, 9);
+            fault("falls (1;takes 1);lifts 1;", 8);
+            for (String end : new String[] {"!", "xor", "99999", "1", "falls", ")"}) {
+                fault("falls 1;takes 1;lifts 1;" + end, 24);
+                fault("falls 1;takes 1;lifts 1; " + end + " ", 25);
+            }
             fault("falls ) 99999 !", 6);
             fault("falls 1 99999 !", 8);
             fault("falls 1 ! )", 8);
@@ -375,17 +400,18 @@ public final class LawBounds {
         });
     }
 
-    /** What a text that says this says, of an OWNER with MORE 4, HEAP 30, at HOUR 9, behind 2 PASSES. */
+    /** What a text that says this says, of OWNER 1 with MORE 4, HEAP 30, at HOUR 9, behind 2 PASSES. */
     private static void says(String sum, int want) {
         ThrownBack x = new ThrownBack();
+        x.owner(9, 0);
         x.owner(4, 0);
-        x.put(0, 1, 30);
+        x.put(1, 1, 30);
         x.pass(1, 1);
         x.pass(1, 1);
         x.set(0, 9);
         x.force(Check.text(x, "falls " + sum + ";takes " + sum + ";lifts " + sum + ";"));
         for (int part = 0; part < 3; part++) {
-            due("asks(" + part + ", 0, 7) by " + sum, x.asks(part, 0, 7), want);
+            due("asks(" + part + ", 1, 7) by " + sum, x.asks(part, 1, 7), want);
         }
     }
 
@@ -402,6 +428,12 @@ public final class LawBounds {
             says("9999*9999*9999*9999<0", wrapped(9999, 4) < 0 ? 1 : 0);
         });
         Sentence.of(5, "= 1 or 0 (what is not 0 is true)", () -> {
+            for (String no : new String[] {"0 or 0", "1 and 0", "0 and 1", "not 1", "not -1", "1<1", "2<1", "1=2"}) {
+                says("5+(" + no + ")", 5);
+            }
+            for (String yes : new String[] {"1 or 0", "0 or 1", "9 or 9", "1 and 1", "9 and -9", "not 0", "1<2", "-2<-1", "9=9"}) {
+                says("5+(" + yes + ")", 6);
+            }
             says("not -1", 0);
             says("-1 and -1", 1);
             says("-1 or 0", 1);
@@ -471,7 +503,11 @@ public final class LawBounds {
             }
             Tale.refused(Tale::full, "asks(0, 12, 0)", BAD, y -> y.asks(0, 12, 0));
             Tale.refused(ThrownBack::new, "asks(0, 0, 0) of no OWNER", BAD, y -> y.asks(0, 0, 0));
-            says("heap+more+gate", 34);
+            says("heap", 30);
+            says("more", 4);
+            says("gate", 1);
+            says("hour", 9);
+            says("passes", 2);
         });
         Sentence.of(7, "wall (lies, 0 .. 999) as told", () -> {
             ThrownBack x = new ThrownBack();
