@@ -941,11 +941,13 @@ public final class ThrownBack {
         }
 
         boolean isOf(int wanted) {
-            // each KIND stands behind the one above it, so this ends
-            for (int k = kind; k >= 0; k = KIND_ABOVE[k]) {
+            int k = kind;
+            // no more KINDS than there are can stand above one another
+            for (int i = 0; i < KIND_ABOVE.length && k >= 0 && k < KIND_ABOVE.length; i++) {
                 if (k == wanted) {
                     return true;
                 }
+                k = KIND_ABOVE[k];
             }
             return false;
         }

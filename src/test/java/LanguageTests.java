@@ -1,17 +1,28 @@
+import com.sun.source.tree.ArrayAccessTree;
+import com.sun.source.tree.AssignmentTree;
 import com.sun.source.tree.BinaryTree;
 import com.sun.source.tree.BlockTree;
 import com.sun.source.tree.ClassTree;
 import com.sun.source.tree.CompilationUnitTree;
 import com.sun.source.tree.CompoundAssignmentTree;
+import com.sun.source.tree.DoWhileLoopTree;
+import com.sun.source.tree.ExpressionStatementTree;
+import com.sun.source.tree.ExpressionTree;
+import com.sun.source.tree.ForLoopTree;
+import com.sun.source.tree.IdentifierTree;
 import com.sun.source.tree.MemberSelectTree;
 import com.sun.source.tree.MethodInvocationTree;
 import com.sun.source.tree.MethodTree;
 import com.sun.source.tree.NewClassTree;
+import com.sun.source.tree.ParenthesizedTree;
 import com.sun.source.tree.Tree;
+import com.sun.source.tree.UnaryTree;
 import com.sun.source.tree.VariableTree;
+import com.sun.source.tree.WhileLoopTree;
 import com.sun.source.util.JavacTask;
 import com.sun.source.util.TreePath;
 import com.sun.source.util.TreePathScanner;
+import com.sun.source.util.TreeScanner;
 import com.sun.source.util.Trees;
 import java.io.IOException;
 import java.lang.reflect.Modifier;
@@ -189,7 +200,115 @@ public final class LanguageTests {
             if (tree.getKind() == Tree.Kind.PLUS) {
                 Check.holds("no texts joined by +: " + tree, isNumber(tree));
             }
+            if (tree.getKind() == Tree.Kind.EQUAL_TO || tree.getKind() == Tree.Kind.NOT_EQUAL_TO) {
+                Check.holds("numbers, not texts, compared by == or !=: " + tree, isNumber(tree.getLeftOperand()));
+            }
             return super.visitBinary(tree, unused);
+        }
+
+        @Override
+        public Void visitForLoop(ForLoopTree tree, Void unused) {
+            Set<String> steps = stepped(tree.getUpdate());
+            endIsSeen(tree, tree.getCondition(), steps);
+            Set<String> inside = new HashSet<>(assigned(tree.getStatement()));
+            inside.retainAll(steps);
+            Check.holds("a counter is left to its loop: " + inside + " in " + tree, inside.isEmpty());
+            return super.visitForLoop(tree, unused);
+        }
+
+        @Override
+        public Void visitWhileLoop(WhileLoopTree tree, Void unused) {
+            endIsSeen(tree, tree.getCondition(), stepped(List.of(tree.getStatement())));
+            return super.visitWhileLoop(tree, unused);
+        }
+
+        @Override
+        public Void visitDoWhileLoop(DoWhileLoopTree tree, Void unused) {
+            endIsSeen(tree, tree.getCondition(), stepped(List.of(tree.getStatement())));
+            return super.visitDoWhileLoop(tree, unused);
+        }
+
+        /** Rule 9: a counter that goes on by 1 each time is held against a bound, and nothing else makes the loop go on. */
+        private void endIsSeen(Tree loop, ExpressionTree condition, Set<String> steps) {
+            Check.holds("a loop with an end that can be seen: " + loop, condition != null && isBound(condition, steps));
+        }
+
+        private static boolean isBound(ExpressionTree condition, Set<String> steps) {
+            if (condition instanceof ParenthesizedTree inner) {
+                return isBound(inner.getExpression(), steps);
+            }
+            if (!(condition instanceof BinaryTree two)) {
+                return false;
+            }
+            switch (two.getKind()) {
+                case CONDITIONAL_AND:
+                    return isBound(two.getLeftOperand(), steps) || isBound(two.getRightOperand(), steps);
+                case LESS_THAN:
+                case LESS_THAN_EQUAL:
+                    return steps.contains("up " + two.getLeftOperand());
+                case GREATER_THAN:
+                case GREATER_THAN_EQUAL:
+                    return steps.contains("down " + two.getLeftOperand());
+                default:
+                    return false;
+            }
+        }
+
+        /** Which names these statements, one after the other and under no condition, count up or down. */
+        private static Set<String> stepped(List<? extends Tree> statements) {
+            Set<String> names = new HashSet<>();
+            for (Tree one : statements) {
+                Tree bare = one instanceof ExpressionStatementTree e ? e.getExpression() : one;
+                if (bare instanceof BlockTree block) {
+                    names.addAll(stepped(block.getStatements()));
+                } else if (bare instanceof UnaryTree unary) {
+                    boolean isUp = bare.getKind() == Tree.Kind.POSTFIX_INCREMENT || bare.getKind() == Tree.Kind.PREFIX_INCREMENT;
+                    names.add((isUp ? "up " : "down ") + unary.getExpression());
+                }
+            }
+            return names;
+        }
+
+        /** The names that a loop's body changes, wherever it does, as stepped() says them. */
+        private static Set<String> assigned(Tree body) {
+            Set<String> names = new HashSet<>();
+            new TreeScanner<Void, Void>() {
+                private void add(ExpressionTree name) {
+                    names.add("up " + name);
+                    names.add("down " + name);
+                }
+
+                @Override
+                public Void visitAssignment(AssignmentTree tree, Void unused) {
+                    add(tree.getVariable());
+                    return super.visitAssignment(tree, unused);
+                }
+
+                @Override
+                public Void visitCompoundAssignment(CompoundAssignmentTree tree, Void unused) {
+                    add(tree.getVariable());
+                    return super.visitCompoundAssignment(tree, unused);
+                }
+
+                @Override
+                public Void visitUnary(UnaryTree tree, Void unused) {
+                    if (tree.getKind() != Tree.Kind.UNARY_MINUS && tree.getKind() != Tree.Kind.LOGICAL_COMPLEMENT) {
+                        add(tree.getExpression());
+                    }
+                    return super.visitUnary(tree, unused);
+                }
+            }.scan(body, null);
+            return names;
+        }
+
+        @Override
+        public Void visitAssignment(AssignmentTree tree, Void unused) {
+            if (tree.getVariable() instanceof ArrayAccessTree place && place.getExpression() instanceof IdentifierTree row) {
+                Element one = trees.getElement(TreePath.getPath(getCurrentPath(), row));
+                boolean isStatic = one.getModifiers().contains(javax.lang.model.element.Modifier.STATIC);
+                Check.holds("a static array is never changed: " + tree, !isStatic);
+            }
+            return super.visitAssignment(tree, unused);
         }
 
         @Override
